@@ -409,13 +409,13 @@ public final class ProofPacker {
             return NONE;
         }
 
+        /** The statement settles how many kinds the list has to have from its place on. */
         private boolean isMadeOf(int kind, int statement, IntList list, int start) {
             int r = firstOfKind.at(kind);
-            int amount = list.length() - start;
-            if (statementOf(r) != statement || amountOfParts(r) != amount) {
+            if (statementOf(r) != statement) {
                 return false;
             }
-            for (int k = 0; k < amount; k++) {
+            for (int k = 0; k < list.length() - start; k++) {
                 if (partKinds.at(starts.at(r) + k) != list.at(start + k)) {
                     return false;
                 }

@@ -339,7 +339,10 @@ public final class ProofPackerModel {
                         ? model.rows.size() - 1 - upTo(Math.min(5, model.rows.size())) : place(model.rows.size());
                 due("again(" + r + ")", x.again(r), model.again(r));
             } else if (way < 27) {
-                tellAll();
+                if (number % 2 == 0 || upTo(12) == 0) {
+                    makeOneOfAll();
+                    tellAll();
+                }
             } else {
                 rarely();
             }
@@ -358,6 +361,14 @@ public final class ProofPackerModel {
                 }
             }
             return best;
+        }
+
+        // By a statement that takes two: with more on the pile there is nothing to pack.
+        void makeOneOfAll() {
+            int two = model.takes.indexOf(2);
+            while (two >= 0 && model.pile.size() > 1 && done < CALLS - 5) {
+                due("make(" + two + ")", x.make(two), model.make(two));
+            }
         }
 
         void tellAll() {

@@ -505,13 +505,18 @@ public final class ProofPackerPromises {
 
     private static void letter() {
         promise = 16;
-        ProofPacker x = small();
+        ProofPacker x = new ProofPacker();
+        x.statement(2);
+        x.statement(0);
+        x.statement(0);
+        x.statement(0);
+        x.mandatory(3);
         x.mandatory(1);
-        makeAll(x, 1, 0, 2);
+        makeAll(x, 1, 3, 0);
         x.again(2);
-        makeAll(x, 2);
+        makeAll(x, 0, 2, 0);
         x.pack();
-        int[] want = {'B', 'A', 'C', 'Z', 'D', 'C', -1};
+        int[] want = {'B', 'A', 'C', 'Z', 'E', 'C', 'D', 'C', -1};
         for (int k = 0; k < want.length; k++) {
             due("letter(" + k + ")", x.letter(k), want[k]);
         }
@@ -605,17 +610,16 @@ public final class ProofPackerPromises {
         due("size of 10^18 + 1", x.size(x.make(3)), -2);
         int more = x.make(3);
         due("size of more", x.size(more), -2);
-        x.statement(60);
-        for (int many = 1; many < 60; many++) {
-            x.again(more);
+        // Ten times more than 10^18 is more than a long holds; sixty times comes round to it again.
+        for (int n : new int[] {10, 60, 60}) {
+            int all = x.statement(n);
+            for (int many = 1; many < n; many++) {
+                x.again(more);
+            }
+            more = x.make(all);
+            due("size of " + n + " times more", x.size(more), -2);
+            due("full of it", x.full(more, 0), -1);
         }
-        int most = x.make(5);
-        due("size of sixty times more", x.size(most), -2);
-        for (int many = 1; many < 60; many++) {
-            x.again(most);
-        }
-        due("size of sixty times sixty times more", x.size(x.make(5)), -2);
-        due("full of it", x.full(most, 0), -1);
     }
 
     private static void full() {
