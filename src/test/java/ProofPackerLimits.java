@@ -29,7 +29,13 @@ public final class ProofPackerLimits {
             due("statement(0)", x.statement(0), i);
         }
         due("statement(0) as the 1501st", x.statement(0), -1);
+        due("statement(60) as the 1501st", x.statement(60), -1);
+        due("statement(61) as the 1501st", x.statement(61), -1);
         due("count(0)", x.count(0), 1500);
+        due("clear()", x.clear(), 0);
+        due("statement(0) behind clear()", x.statement(0), -1);
+        due("mandatory(1500)", x.mandatory(1500), -1);
+        due("mandatory(1499)", x.mandatory(1499), 1);
         due("make(1499)", x.make(1499), 0);
         due("make(1500)", x.make(1500), -1);
     }
@@ -44,10 +50,18 @@ public final class ProofPackerLimits {
         }
         due("make(1) as the 4001st", x.make(1), -1);
         due("make(0) as the 4001st", x.make(0), -1);
+        due("row(3999)", x.row(3999), 1);
+        due("row(4000)", x.row(4000), -1);
+        due("from(3999, 0)", x.from(3999, 0), 3998);
+        due("count(5)", x.count(5), 4000);
         due("count(2)", x.count(2), 4000);
         due("count(3)", x.count(3), 1);
         due("count(4)", x.count(4), 4000);
-        due("again(0)", x.again(0), 2);
+        due("again(3999), which makes no row", x.again(3999), 2);
+        due("make(1) as the 4001st", x.make(1), -1);
+        due("count(3)", x.count(3), 2);
+        due("count(4)", x.count(4), 4001);
+        due("again(4000)", x.again(4000), -1);
         due("clear()", x.clear(), 4000);
         due("make(0)", x.make(0), 0);
     }
@@ -56,6 +70,7 @@ public final class ProofPackerLimits {
         ProofPacker x = new ProofPacker();
         x.statement(0);
         x.statement(60);
+        x.statement(1);
         int r = x.make(0);
         int puts = 1;
         while (puts < 20000 - 61) {
@@ -70,12 +85,15 @@ public final class ProofPackerLimits {
             puts++;
         }
         due("count(4)", x.count(4), 19999);
-        due("again(0)", x.again(0) > 0 ? 1 : 0, 1);
+        int onPile = x.count(3);
+        due("make(2) as the 20000th", x.make(2), r + 1);
         due("again(0) as the 20001st", x.again(0), -1);
         due("make(0) as the 20001st", x.make(0), -1);
-        due("make(1) as the 20001st", x.make(1), -1);
+        due("make(2) as the 20001st", x.make(2), -1);
+        due("count(2)", x.count(2), r + 2);
+        due("count(3)", x.count(3), onPile);
         due("count(4)", x.count(4), 20000);
-        due("clear()", x.clear(), r + 1);
+        due("clear()", x.clear(), r + 2);
         due("make(0)", x.make(0), 0);
         due("count(4)", x.count(4), 1);
     }
