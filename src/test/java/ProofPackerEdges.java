@@ -241,8 +241,8 @@ public final class ProofPackerEdges {
             askAll("size", 0);
             for (int r = 0; ask("row", r) != -1; r++) {
                 askAll("from", r, 0);
-                ask("same", 0, r);
-                ask("full", r, 0);
+                askAll("same", r, 0);
+                askAll("full", r, 0);
             }
             pile();
             mandatory();
