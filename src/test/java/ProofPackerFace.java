@@ -21,8 +21,12 @@ public final class ProofPackerFace {
             "long size(int)", "int full(int,int)", "int check()");
     private static final String[] FORBIDDEN = {
         "throw", "throws", "try", "catch", "finally", "synchronized", "assert", "import static", "->", "::",
-        "Exact", "Object", "System.out", "Random", "Thread", "hashCode", "equals", "toString"
+        "Object", "System.out", "Random", "Thread", "hashCode", "equals", "toString"
     };
+
+    private static final Set<String> LIBRARY = Set.of("Arrays.copyOf", "Arrays.fill", "Math.min");
+    private static final int MOST_LINES = 60;
+    private static final int MOST_CLASSES = 12;
 
     private static int wrong = 0;
 
@@ -44,6 +48,7 @@ public final class ProofPackerFace {
         for (Class<?> inside : ProofPacker.class.getDeclaredClasses()) {
             classInside(inside);
         }
+        need(ProofPacker.class.getDeclaredClasses().length < MOST_CLASSES, "too many classes");
         text();
         System.out.println(wrong == 0 ? "the face is the document's" : wrong + " faults of the face");
         if (wrong != 0) {
@@ -109,5 +114,33 @@ public final class ProofPackerFace {
         }
         need(!Pattern.compile("(?m)^package ").matcher(code).find(), "there is a package line");
         need(all.chars().allMatch(c -> c < 256), "characters beyond 255");
+        library(code);
+        lengths(all.split("\n"));
+    }
+
+    // The class uses this much of the library alone: what is added has to be held against LANGUAGE.md first.
+    private static void library(String code) {
+        Matcher used = Pattern.compile("\\b([A-Z][a-z]\\w*\\.\\w+)").matcher(code);
+        while (used.find()) {
+            need(LIBRARY.contains(used.group(1)), "of the library: " + used.group(1));
+        }
+    }
+
+    private static void lengths(String[] lines) {
+        Pattern head = Pattern.compile("( {4}| {8})(?!private static final class)\\w.*\\) \\{");
+        int methods = 0;
+        for (int first = 0; first < lines.length; first++) {
+            Matcher found = head.matcher(lines[first]);
+            if (!found.matches() || lines[first].matches(" *(if|for|while|switch) .*")) {
+                continue;
+            }
+            int last = first;
+            while (last < lines.length && !lines[last].equals(found.group(1) + "}")) {
+                last++;
+            }
+            methods++;
+            need(last - first < MOST_LINES, "too long: " + lines[first]);
+        }
+        need(methods >= METHODS.size(), "methods were not found in the text");
     }
 }
